@@ -33,7 +33,7 @@ public final class TextsTest {
             "@", "   @", "@odds 1;", "eats@", "eats @;", "eats 1@", "eats 1;@", "eats 1; @eats 1;",
             "eats 1; odds 2;  \n @", "eats 1; odds 2; spends 3@", "eats 1; odds 2; spends 3  @",
             "eats 1; odds 2; spends 3; @;", "eats 1; odds 2; spends 3; @eats 1;", "eats 1; odds 2; spends 3; @A",
-            "eats @12345; odds 2; spends 3;", "eats 1 @2; odds 2; spends 3;", "eats @cheese;", "@eatss 1;",
+            "eats @12345; odds 2; spends 3;", "eats 1 @2; odds 2; spends 3;", "eats @cheese;", "@eatss 1;", "eats @hourz;", "eats @four;", "@fats 1;", "eats @zz;", "eats 1@`;", "eats 1@{;",
             "eats @Hour;", "eats 1@\t;", "eats 1 @, 2;", "eats 1 @> 2;", "eats 1 < 2 @< 3;", "eats 1 = 2 @= 3;",
             "eats 1 < 2 @= 3;", "eats 1 + @not 2;", "eats 1 < @not 2;", "eats 1 * @+ 2;", "eats @+ 1;", "eats @* 1;",
             "eats 1 or @or 2;", "eats 1 @not 2;", "eats @and 1;", "eats (@) ;", "eats (1@;", "eats (1 @2);",
