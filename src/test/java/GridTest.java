@@ -1,6 +1,6 @@
 /**
- * Every call with every meeting of edges among its arguments, on an object that is new, one that is in use and one
- * that is full, beside the model: too small, too large, far away, each with each.
+ * Calls with arguments from lists of edges (too small, too large, far away), each with each, on an object that is new,
+ * one that is in use and one that is full, beside the model.
  */
 public final class GridTest {
     private static final int MIN = Integer.MIN_VALUE, MAX = Integer.MAX_VALUE;

@@ -266,7 +266,10 @@ public final class TextEdgesTest {
         OneCubeEach x = new OneCubeEach();
         x.customer(0, 0, 0);
         for (int i = 1; i < 6; i++) {
-            due.be("force of what is no TEXT yet", x.force(i), OneCubeEach.BAD);
+            for (int later = i; later < 8; later++) {
+                due.be("force(" + later + ") of what is no TEXT yet", x.force(later), OneCubeEach.BAD);
+            }
+            due.be("a refusal changes nothing", x.count(5), 0);
             due.be("-100 less the place of its FAULT", Due.read(x, "eats 1;odds;"), -111);
             due.be("a FAULT is no TEXT", x.count(3), i);
             due.be("empty then, by a FAULT too", x.count(4), 0);
@@ -302,6 +305,18 @@ public final class TextEdgesTest {
         x.force(1);
         for (int what = 10; what < 13; what++) {
             due.be("the next alone: told(0, " + what + ")", x.told(0, what), what - 3);
+        }
+        String[] faulty = {"eats 1;odds 2;spends -3;;", "eats 1;odds 2;spends not 3;;", "eats 1;odds 2;spends 3", "eats 1;odds 2;spends --3;;",
+            "eats 1;odds 2;spends not not not 3;;", "eats 1*2;odds 3;;", "eats --1;odds 2;;", "eats not-1;odds not 2;spends 1+2;;"};
+        for (String text : faulty) {
+            OneCubeEach y = new OneCubeEach();
+            y.customer(0, 0, 0);
+            due.hold("has a FAULT: " + text, Due.read(y, text) <= -100);
+            due.be("the next behind " + text, Due.read(y, "eats 7;odds 8;spends 9;"), 1);
+            y.force(1);
+            for (int what = 10; what < 13; what++) {
+                due.be("the next alone behind " + text + ": told(0, " + what + ")", y.told(0, what), what - 3);
+            }
         }
     }
 
